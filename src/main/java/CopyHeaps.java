@@ -511,42 +511,47 @@ public final class CopyHeaps {
         }
 
         int addPair(int a, int b) {
-            int at = used;
-            cells[at] = a;
-            cells[at + 1] = b;
-            return place(PAIR, PAIR_LENGTH);
+            cells[used] = a;
+            cells[used + 1] = b;
+            return place(termOf(PAIR, used), PAIR_LENGTH);
         }
 
         int addTuple(int[] parts, int n) {
-            int at = used;
-            cells[at] = n;
-            System.arraycopy(parts, 0, cells, at + 1, n);
-            return place(TUPLE, n + 1);
+            cells[used] = n;
+            for (int k = 0; k < n; k++) {
+                cells[used + 1 + k] = parts[k];
+            }
+            return place(termOf(TUPLE, used), n + 1);
         }
 
         int addHandle(int which) {
-            int at = used;
-            cells[at] = which;
-            cells[at + 1] = 0;
-            return place(HANDLE, HANDLE_LENGTH);
+            cells[used] = which;
+            return place(termOf(HANDLE, used), HANDLE_LENGTH);
         }
 
         int addCopy(Heap other, int structure) {
-            int length = other.lengthOf(structure);
-            System.arraycopy(other.cells, contentOf(structure), cells, used, length);
-            return place(kindOf(structure), length);
+            int otherAddress = contentOf(structure);
+            int length = lengthOf(kindOf(structure), other.cells[otherAddress]);
+            System.arraycopy(other.cells, otherAddress, cells, used, length);
+            return place(termOf(kindOf(structure), used), length);
         }
 
-        private int place(int kind, int length) {
-            int structure = termOf(kind, used);
+        private int place(int structure, int length) {
             structures[structureCount] = structure;
             structureCount++;
             used += length;
             return structure;
         }
 
-        private int lengthOf(int structure) {
-            return kindOf(structure) == HANDLE ? HANDLE_LENGTH : partCount(structure) + firstPart(structure);
+        private static int lengthOf(int kind, int firstCell) {
+            switch (kind) {
+                case PAIR:
+                    return PAIR_LENGTH;
+                case TUPLE:
+                    return firstCell + 1;
+                default:
+                    return HANDLE_LENGTH;
+            }
         }
 
         int partCount(int term) {

@@ -6,6 +6,7 @@ public final class StructuresTest {
         tuples(script);
         blobs(script);
         blobsWithoutWords(script);
+        allWordsInOneHeap(script);
         thirtyBlobs(script);
         parts(script);
         script.end();
@@ -118,6 +119,15 @@ public final class StructuresTest {
                 40,
                 "spawn() = 1; blob(1, 0, 32); nil(1, 0); 3 x pair(1, 1, 1, 1); count(1) = 0; tuple(1, 0, 4)",
                 "count(4) = 1; of(1, 0) = 16; of(1, 1) = 11; count(1) = 24; count(2) = 0");
+    }
+
+    private static void allWordsInOneHeap(Script script) {
+        script.run(
+                "8, 9: all words in one heap",
+                600,
+                "spawn() = 1; 298 x pair(1, 0, 0, 0); tuple(1, 1, 1); tuple(1, 2, 0); tuple(1, 3, 0); of(1, 0) = 600",
+                "of(1, 1) = 600; address(1, 3) = 599; count(1) = 0; collect(1) = 0; of(1, 1) = 600; words(1, 1) = 598",
+                "tuple(1, 3, 0) = throws.IllegalStateException; spawn() = throws.IllegalStateException; exit(1) = 600");
     }
 
     private static void thirtyBlobs(Script script) {
