@@ -43,6 +43,10 @@ final class Caller {
         return Integer.parseInt(call(name, arguments));
     }
 
+    boolean isAlive(int process) {
+        return !call("of", process, 0).startsWith(THROWS);
+    }
+
     /** All that can be asked without a change, but for what only messages and parts would show. */
     String state() {
         StringBuilder state = new StringBuilder();
@@ -50,7 +54,7 @@ final class Caller {
             state.append(call("count", which)).append(' ');
         }
         for (int process = 1; process <= number("count", 3); process++) {
-            if (!call("of", process, 0).startsWith(THROWS)) {
+            if (isAlive(process)) {
                 appendProcess(state, process);
             }
         }

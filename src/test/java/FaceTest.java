@@ -75,7 +75,8 @@ public final class FaceTest {
         script.isTrue("not public and final", Modifier.isPublic(modifiers) && Modifier.isFinal(modifiers));
         Constructor<?>[] constructors = CopyHeaps.class.getDeclaredConstructors();
         script.isTrue("not one constructor", constructors.length == 1);
-        script.isTrue("not CopyHeaps(int)", Arrays.equals(constructors[0].getParameterTypes(), new Class<?>[] {int.class}));
+        Class<?>[] parameters = constructors[0].getParameterTypes();
+        script.isTrue("not CopyHeaps(int)", Arrays.equals(parameters, new Class<?>[] {int.class}));
         for (Field field : CopyHeaps.class.getDeclaredFields()) {
             script.isTrue("not private: " + field.getName(), Modifier.isPrivate(field.getModifiers()));
             script.isTrue("static and not final: " + field.getName(), isFinalIfStatic(field.getModifiers()));

@@ -8,10 +8,11 @@ import java.util.List;
 import java.util.Map;
 import java.util.Set;
 import java.util.TreeMap;
+import java.util.stream.Stream;
 
 /**
- * The document once more, over objects that lead to one another, as the ModelTest compares it with the program. It keeps
- * no counts: what is free, used or counted is added up anew at each question.
+ * The document once more, over objects that lead to one another, as the ModelTest compares it with the program. It
+ * keeps no counts: what is free, used or counted is added up anew at each question.
  */
 final class ModelHeaps {
     private static final Term NIL = new Term(0, 0, List.of());
@@ -83,15 +84,19 @@ final class ModelHeaps {
         return order;
     }
 
+    private Stream<Term> allHandles() {
+        return alive.values().stream().flatMap(p -> p.heap.stream()).filter(t -> t.kind == 5);
+    }
+
     private Map<Object, Integer> handleCounts() {
         Map<Object, Integer> counts = new IdentityHashMap<>();
-        alive.values().forEach(p -> p.heap.stream().filter(t -> t.kind == 5).forEach(t -> counts.merge(t.blob, 1, Integer::sum)));
+        allHandles().forEach(t -> counts.merge(t.blob, 1, Integer::sum));
         return counts;
     }
 
     private int free() {
         Map<Object, Integer> sizes = new IdentityHashMap<>();
-        alive.values().forEach(p -> p.heap.stream().filter(t -> t.kind == 5).forEach(t -> sizes.put(t.blob, t.value)));
+        allHandles().forEach(t -> sizes.put(t.blob, t.value));
         int capacities = alive.values().stream().mapToInt(p -> p.capacity).sum();
         return words - capacities - sizes.values().stream().mapToInt(Integer::intValue).sum();
     }

@@ -6,7 +6,7 @@ import java.util.Map;
 import java.util.Random;
 import java.util.TreeMap;
 
-/** Runs of 512 drawn calls, always the same ones, on the program and on the ModelHeaps: their answers must be the same. */
+/** Runs of 512 drawn calls, always the same ones, on the program and on the ModelHeaps, with the same answers. */
 public final class ModelTest {
     private static final int CALLS = 512;
     private static final int RUNS = 1500;
@@ -114,7 +114,10 @@ public final class ModelTest {
             case "part" -> new int[] {p, r, a, random.nextInt(20) == 0 ? random.nextInt(7) - 1 : random.nextInt(2)};
             case "count" -> new int[] {random.nextInt(30) == 0 ? random.nextInt(8) - 2 : random.nextInt(5)};
             case "of" -> new int[] {p, random.nextInt(30) == 0 ? random.nextInt(6) - 2 : random.nextInt(3)};
-            case "equal" -> new int[] {p, r, random.nextBoolean() ? p : process(random, latest), random.nextBoolean() ? r : a};
+            case "equal" -> {
+                int other = random.nextBoolean() ? p : process(random, latest);
+                yield new int[] {p, r, other, random.nextBoolean() ? r : a};
+            }
             default -> throw new IllegalArgumentException(name);
         };
     }

@@ -1,73 +1,77 @@
-import java.util.regex.Matcher;
-import java.util.regex.Pattern;
+import java.util.List;
 
 /**
  * Runs of calls that are written as texts, with semicolons between the calls: {@code pair(1, 0, 2, 2)} must not throw,
- * {@code spawn() = 3} must answer 3, {@code nil(9, 0) = throws.IndexOutOfBoundsException} must throw that, and {@code
- * 5 x nil(1, 0)} is five such calls. A call that throws must change nothing, unless there was a collection.
+ * {@code spawn() = 3} must answer 3, {@code nil(9, 0) throws Index} must throw IndexOutOfBoundsException, and {@code
+ * 5 x nil(1, 0)} is five such calls. The object gets these calls and no others.
+ *
+ * <p>A call that throws, a send that answers false and a question must leave all as it was, but for the collection
+ * where there is no room, and for the room that stays where a blob is refused.
  */
 final class Script {
-    private static final Pattern STEP = Pattern.compile("(?:(\\d+) x )?(\\w+)\\(([^)]*)\\)(?: = (\\S+))?");
+    private static final int MOST_CALLS = 512;
+    private static final int HEAP_STEP = 8;
+    private static final String NO_ROOM = Caller.THROWS + "IllegalStateException";
+    private static final String NO_BLOB = Caller.THROWS + "UnsupportedOperationException";
 
     private int wrong;
 
     void run(String title, int words, String... lines) {
+        List<Step> steps = Step.parse(lines);
+        isTrue(title + ": nothing is promised for " + steps.size() + " calls", steps.size() <= MOST_CALLS);
         Caller caller = new Caller(new CopyHeaps(words));
-        for (String line : lines) {
-            for (String step : line.split(";")) {
-                if (!step.isBlank()) {
-                    runStep(title, caller, step.trim());
-                }
+        for (int i = 0; i < steps.size(); i++) {
+            Step step = steps.get(i);
+            String answer = step.callOn(caller);
+            String told = title + ": call " + (i + 1) + ", " + step + " answered " + answer;
+            isTrue(told + ", due is " + (step.due() == null ? "no exception" : step.due()), step.isDue(answer));
+            if (answer.startsWith(Caller.THROWS) || answer.equals("false") || step.isQuestion()) {
+                checkLeftAll(told, words, steps.subList(0, i), step, answer);
             }
         }
     }
 
-    private void runStep(String title, Caller caller, String step) {
-        Matcher matcher = STEP.matcher(step);
-        if (!matcher.matches()) {
-            throw new IllegalArgumentException("not a call: " + step);
+    private void checkLeftAll(String told, int words, List<Step> before, Step step, String answer) {
+        Caller without = replay(words, before);
+        Caller with = replay(words, before);
+        step.callOn(with);
+        boolean blobRefused = step.name().equals("blob") && answer.equals(NO_BLOB);
+        if (step.needsRoom() && answer.equals(NO_ROOM) || blobRefused) {
+            collectAsWell(without, with, step);
         }
-        int times = matcher.group(1) == null ? 1 : Integer.parseInt(matcher.group(1));
-        for (int i = 0; i < times; i++) {
-            check(title, caller, matcher.group(2), numbers(matcher.group(3)), matcher.group(4));
+        int taken = without.number("count", 1) - with.number("count", 1);
+        if (blobRefused && taken == HEAP_STEP) {
+            int grown = with.number("of", step.roomMaker(), 0) - without.number("of", step.roomMaker(), 0);
+            isTrue(told + " and took words for no heap", grown == taken);
+            checkAlike(told, Contents.terms(without), Contents.terms(with));
+        } else {
+            checkAlike(told, Contents.withCounts(without), Contents.withCounts(with));
         }
     }
 
-    private static int[] numbers(String text) {
-        if (text.isBlank()) {
-            return new int[0];
+    private static void collectAsWell(Caller without, Caller with, Step step) {
+        if (with.number("count", 4) > without.number("count", 4)) {
+            without.call("collect", step.roomMaker());
         }
-        String[] parts = text.split(",");
-        int[] numbers = new int[parts.length];
-        for (int i = 0; i < parts.length; i++) {
-            numbers[i] = Integer.parseInt(parts[i].trim());
-        }
-        return numbers;
     }
 
-    private void check(String title, Caller caller, String name, int[] arguments, String due) {
-        String before = caller.state();
-        String collectionsBefore = caller.call("count", 4);
-        String answer = caller.call(name, arguments);
-        String call = title + ": " + name + java.util.Arrays.toString(arguments);
-        boolean threw = answer.startsWith(Caller.THROWS);
-        if (due == null ? threw : !answer.equals(due)) {
-            tell(call + " answered " + answer + ", due is " + (due == null ? "no exception" : due));
+    private void checkAlike(String told, String due, String got) {
+        isTrue(told + " and changed " + due + " to " + got, due.equals(got));
+    }
+
+    private static Caller replay(int words, List<Step> steps) {
+        Caller caller = new Caller(new CopyHeaps(words));
+        for (Step step : steps) {
+            step.callOn(caller);
         }
-        if (threw && collectionsBefore.equals(caller.call("count", 4)) && !before.equals(caller.state())) {
-            tell(call + " threw, and changed " + before + " to " + caller.state());
-        }
+        return caller;
     }
 
     void isTrue(String what, boolean holds) {
         if (!holds) {
-            tell(what);
+            wrong++;
+            System.out.println(what);
         }
-    }
-
-    private void tell(String text) {
-        wrong++;
-        System.out.println(text);
     }
 
     /** Ends the test, with exit code 1 if an answer was not the one that is due. */
