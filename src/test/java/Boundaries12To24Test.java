@@ -31,8 +31,7 @@ public final class Boundaries12To24Test {
                     "12: false if that is not alive: " + to,
                     40,
                     "3 x spawn(); exit(2) = 8; pair(1, 0, 0, 0); nil(1, 1); send(1, 0, " + to + ") = false",
-                    "count(4) = 0; of(1, 2) = 0",
-                    "of(3, 2) = 0; count(1) = 24");
+                    "count(4) = 0; of(1, 2) = 0; of(3, 2) = 0; count(1) = 24");
         }
         script.run(
                 "12: false if that is not alive: the first and the latest are",
@@ -392,9 +391,8 @@ public final class Boundaries12To24Test {
                     "24: equal one by one: part " + k,
                     40,
                     "spawn() = 1; tuple(1, 3, 4); send(1, 3, 1); nil(1, 3); integer(1, " + k + ", 1)",
-                    "tuple(1, 3, 4); receive(1, 0) = 0",
-                    "equal(1, 0, 1, 3) = false; equal(1, 3, 1, 0) = false; equal(1, 0, 1, 0) = true",
-                    "equal(1, 3, 1, 3) = true");
+                    "tuple(1, 3, 4); receive(1, 0) = 0; equal(1, 0, 1, 3) = false; equal(1, 3, 1, 0) = false",
+                    "equal(1, 0, 1, 0) = true; equal(1, 3, 1, 3) = true");
         }
     }
 

@@ -24,6 +24,7 @@ public final class Boundaries1To11Test {
         blobsWithoutWords(script);
         blobsAfterRoom(script);
         thirtyBlobs(script);
+        thirtyBlobsOfTheirOwn(script);
         parts(script);
         script.end();
     }
@@ -104,7 +105,17 @@ public final class Boundaries1To11Test {
                 "3: registers and messages go",
                 100,
                 "spawn() = 1; integer(1, 0, 5); 3 x send(1, 0, 1); exit(1) = 8; spawn() = 2; of(2, 2) = 0",
-                "receive(2, 0) throws State; kind(2, 0) = 0; of(2, 1) = 0; of(2, 0) = 8");
+                "receive(2, 0) throws State; kind(2, 0) = 0");
+        script.run(
+                "3: its heap goes",
+                100,
+                "spawn() = 1; 5 x pair(1, 0, 0, 0); of(1, 0) = 16; exit(1) = 16; spawn() = 2; of(2, 1) = 0",
+                "of(2, 0) = 8; pair(2, 0, 0, 0); address(2, 0) = 0");
+        script.run(
+                "3: messages go: in one that comes after it they lead to nothing that stays",
+                100,
+                "spawn() = 1; pair(1, 0, 0, 0); 2 x send(1, 0, 1); exit(1) = 8; spawn() = 2; pair(2, 0, 0, 0)",
+                "nil(2, 0); collect(2) = 2; of(2, 1) = 0");
         script.run(
                 "3: others stay: the first, one between, and the last of those alive ends",
                 100,
@@ -329,9 +340,8 @@ public final class Boundaries1To11Test {
                 "10: after room was made, one word is free: that room stays",
                 41,
                 "4 x spawn(); " + FULL + "count(1) = 9; blob(1, 3, 2) throws Unsupported; of(1, 0) = 16",
-                "count(1) = 1; kind(1, 3) = 3; count(2) = 0",
-                "blob(1, 3, 2) throws Unsupported; count(4) = 1; of(1, 0) = 16; blob(1, 3, 1); of(1, 1) = 10",
-                "count(1) = 0; count(4) = 1");
+                "count(1) = 1; kind(1, 3) = 3; count(2) = 0; blob(1, 3, 2) throws Unsupported; count(4) = 1",
+                "of(1, 0) = 16; blob(1, 3, 1); of(1, 1) = 10; count(1) = 0; count(4) = 1");
         script.run(
                 "10: after room was made, one word is free: it is enough for 1",
                 41,
@@ -363,33 +373,43 @@ public final class Boundaries1To11Test {
                 "10: there are 30 blobs: the 30th, and one more",
                 600,
                 twentyNine + "of(1, 1) = 116; of(1, 0) = 120; blob(1, 2, 1); count(2) = 30; of(1, 1) = 118",
-                "blob(1, 3, 1) throws Unsupported",
-                "count(2) = 30; of(1, 1) = 118; of(1, 0) = 120; kind(1, 3) = 0; nil(1, 2)",
-                "blob(1, 3, 1) throws Unsupported; count(4) = 14; collect(1) = 2; count(2) = 29; blob(1, 3, 1)",
-                "count(2) = 30");
+                "blob(1, 3, 1) throws Unsupported; count(2) = 30; of(1, 1) = 118; of(1, 0) = 120; kind(1, 3) = 0",
+                "nil(1, 2); blob(1, 3, 1) throws Unsupported; count(4) = 14; collect(1) = 2; count(2) = 29",
+                "blob(1, 3, 1); count(2) = 30");
         script.run(
                 "10: there are 30 blobs: and the heap has grown for one more, which stays",
                 600,
                 twentyNine + "blob(1, 0, 1); pair(1, 1, 0, 1); of(1, 1) = 120; count(1) = 450",
-                "blob(1, 3, 1) throws Unsupported",
-                "of(1, 0) = 128; count(1) = 442; count(2) = 30; kind(1, 3) = 0");
+                "blob(1, 3, 1) throws Unsupported; of(1, 0) = 128; count(1) = 442; count(2) = 30; kind(1, 3) = 0");
         script.run(
                 "10: there are 30 blobs: of all processes",
                 600,
                 twentyNine + "spawn() = 2; spawn() = 3; blob(2, 0, 1); count(2) = 30",
-                "blob(3, 0, 1) throws Unsupported; blob(2, 1, 1) throws Unsupported",
-                "exit(2) = 9; count(2) = 29; blob(3, 0, 1); count(2) = 30; blob(1, 2, 1) throws Unsupported");
+                "blob(3, 0, 1) throws Unsupported; blob(2, 1, 1) throws Unsupported; exit(2) = 9; count(2) = 29",
+                "blob(3, 0, 1); count(2) = 30; blob(1, 2, 1) throws Unsupported");
         script.run(
                 "10: there are 30 blobs: 29 after room was made",
                 600,
                 twentyNine + "blob(1, 0, 1); pair(1, 2, 0, 0); of(1, 1) = 120; nil(1, 0); nil(1, 2); count(2) = 30",
-                "blob(1, 3, 5); count(2) = 30",
-                "value(1, 3) = 5; of(1, 1) = 118; of(1, 0) = 120");
+                "blob(1, 3, 5); count(2) = 30; value(1, 3) = 5; of(1, 1) = 118; of(1, 0) = 120");
         script.run(
                 "10: there are 30 blobs: more handles do not count",
                 600,
                 twentyNine + "spawn() = 2; 3 x send(1, 0, 2); handles(1, 0) = 4; count(2) = 29; blob(2, 0, 1)",
                 "count(2) = 30");
+    }
+
+    private static void thirtyBlobsOfTheirOwn(Script script) {
+        StringBuilder calls = new StringBuilder("spawn() = 1; ");
+        for (int size = 1; size <= 30; size++) {
+            calls.append("blob(1, 0, ").append(size).append("); pair(1, 1, 0, 1); ");
+        }
+        calls.append("count(2) = 30; count(1) = 15; ");
+        for (int size = 30; size >= 1; size--) {
+            calls.append("part(1, 0, 1, 0); value(1, 0) = ").append(size);
+            calls.append("; handles(1, 0) = 1; part(1, 1, 1, 1); ");
+        }
+        script.run("10: there are 30 blobs: each has its size and its count", 600, calls.toString());
     }
 
     private static void parts(Script script) {
@@ -416,8 +436,7 @@ public final class Boundaries1To11Test {
                     "11: that has no such part: " + make,
                     40,
                     "spawn() = 1; integer(1, 0, 5); tuple(1, 2, 1); " + make + "; part(1, 0, 1, 0) throws Argument",
-                    "part(1, 0, 1, 1) throws Argument; part(1, 0, 1, -1) throws Argument",
-                    "value(1, 0) = 5");
+                    "part(1, 0, 1, 1) throws Argument; part(1, 0, 1, -1) throws Argument; value(1, 0) = 5");
         }
         script.run(
                 "11: register r is part k of what register a is: of itself, where no room is",

@@ -135,6 +135,11 @@ public final class BoundariesOfHeapsTest {
                 40,
                 "spawn() = 1; 5 x pair(1, 0, 0, 0); of(1, 0) = 16; part(1, 0, 0, 0); collect(1) = 2; of(1, 1) = 8",
                 "of(1, 0) = 16; 4 x pair(1, 0, 0, 0); of(1, 1) = 16; of(1, 0) = 16; count(4) = 2");
+        script.run(
+                "the capacity stays: where a collection makes more room than is needed",
+                40,
+                "spawn() = 1; 12 x pair(1, 0, 0, 0); of(1, 1) = 24; of(1, 0) = 24; nil(1, 0); pair(1, 0, 1, 1)",
+                "count(4) = 3; of(1, 1) = 2; of(1, 0) = 24; count(1) = 16");
     }
 
     private static void roomInTheCapacity(Script script) {
@@ -159,8 +164,7 @@ public final class BoundariesOfHeapsTest {
                     "if they go into its capacity, there is room: tuple " + n,
                     40,
                     "spawn() = 1; " + (7 - n) + " x tuple(1, 0, 0); tuple(1, 3, " + n + "); of(1, 1) = 8",
-                    "of(1, 0) = 8; count(4) = 0",
-                    "tuple(1, 2, 0); count(4) = 1; of(1, 0) = 8");
+                    "of(1, 0) = 8; count(4) = 0; tuple(1, 2, 0); count(4) = 1; of(1, 0) = 8");
             script.run(
                     "if they go into its capacity, there is room: tuple " + n + ", one word too many",
                     40,
@@ -216,8 +220,8 @@ public final class BoundariesOfHeapsTest {
                 "its capacity grows if that many words are free: 7",
                 47,
                 "5 x spawn(); count(1) = 7; " + FULL + "pair(1, 3, 3, 3) throws State; of(1, 0) = 8; of(1, 1) = 8",
-                "count(1) = 7",
-                "tuple(1, 3, 0) throws State; tuple(1, 3, 4) throws State; blob(1, 3, 1) throws State; count(4) = 4");
+                "count(1) = 7; tuple(1, 3, 0) throws State; tuple(1, 3, 4) throws State",
+                "blob(1, 3, 1) throws State; count(4) = 4");
         script.run(
                 "its capacity grows to all words of the pool, and then no more",
                 600,
@@ -271,6 +275,11 @@ public final class BoundariesOfHeapsTest {
                 "2 x spawn(); tuple(1, 0, 0); 4 x pair(1, 0, 0, 0); count(1) = 16; " + OTHER_FULL,
                 "send(1, 0, 2) = true; of(2, 1) = 17; of(2, 0) = 24; count(1) = 0; count(4) = 2");
         script.run(
+                title + "9 words too many, and 2 after the collection, 8 are free",
+                40,
+                "3 x spawn(); tuple(1, 0, 0); 4 x pair(1, 0, 0, 0); tuple(2, 1, 0); 7 x tuple(2, 0, 0); nil(2, 0)",
+                "count(1) = 8; of(2, 1) = 8; send(1, 0, 2) = true; of(2, 1) = 10; of(2, 0) = 16; count(1) = 0");
+        script.run(
                 title + "284 words too many, 288 are free",
                 592,
                 "2 x spawn(); 146 x pair(1, 0, 0, 0); count(1) = 288; send(1, 0, 2) = true; of(2, 1) = 292",
@@ -307,6 +316,11 @@ public final class BoundariesOfHeapsTest {
                 "of(2, 1) = 8; count(1) = 15; send(1, 0, 2) throws State; of(2, 1) = 8; of(2, 0) = 8; of(2, 2) = 0",
                 "count(1) = 15; count(4) = 2; part(1, 0, 0, 0); send(1, 0, 2) = true; of(2, 1) = 15; of(2, 0) = 16",
                 "count(1) = 7");
+        script.run(
+                title + "9 words do not go into 8, but the collection was done all the same",
+                40,
+                "4 x spawn(); tuple(1, 0, 0); 4 x pair(1, 0, 0, 0); count(1) = 0; count(4) = 1; tuple(2, 0, 0)",
+                "nil(2, 0); send(1, 0, 2) throws State; count(4) = 2; of(2, 1) = 0; of(2, 0) = 8; of(2, 2) = 0");
         script.run(
                 title + "284 words too many, 287 are free",
                 591,

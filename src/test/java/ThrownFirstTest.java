@@ -172,8 +172,7 @@ public final class ThrownFirstTest {
                 "10: room for its handle, and too few words are free",
                 40,
                 NO_ROOM + "blob(3, 0, 1) throws Unsupported; count(4) = 1; of(3, 1) = 0; of(3, 0) = 8; exit(6) = 8",
-                "blob(1, 0, 1) throws Unsupported",
-                "of(1, 0) = 16; count(1) = 0; count(4) = 2");
+                "blob(1, 0, 1) throws Unsupported; of(1, 0) = 16; count(1) = 0; count(4) = 2");
     }
 
     private static void stateBeforeThirtyBlobs(Script script) {
@@ -183,14 +182,13 @@ public final class ThrownFirstTest {
                 "10: no room for its handle, before there are 30 blobs: 7 words are free",
                 157,
                 thirty + "count(1) = 7; blob(1, 2, 1) throws State; of(1, 0) = 120; count(1) = 7",
-                "blob(1, 2, 101) throws Argument; blob(1, 4, 1) throws Index",
-                "blob(2, 0, 1) throws Index");
+                "blob(1, 2, 101) throws Argument; blob(1, 4, 1) throws Index; blob(2, 0, 1) throws Index");
         script.run(
                 "10: there are 30 blobs, and room for its handle: 8 words are free",
                 158,
                 thirty + "count(1) = 8; blob(1, 2, 1) throws Unsupported; of(1, 0) = 128; count(1) = 0",
-                "blob(1, 2, 1) throws Unsupported; blob(1, 2, 0) throws Argument",
-                "blob(1, -1, 1) throws Index; of(1, 0) = 128; of(1, 1) = 120; count(2) = 30");
+                "blob(1, 2, 1) throws Unsupported; blob(1, 2, 0) throws Argument; blob(1, -1, 1) throws Index",
+                "of(1, 0) = 128; of(1, 1) = 120; count(2) = 30");
         script.run(
                 "10: there are 30 blobs, and words enough",
                 600,
