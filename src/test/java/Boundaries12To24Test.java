@@ -135,6 +135,18 @@ public final class Boundaries12To24Test {
                 "4 x pair(3, 0, 0, 0); broadcast(1, 0) = 2; count(4) = 2; of(2, 1) = 1; address(2, 1) = 0",
                 "of(2, 0) = 8; of(2, 2) = 0; of(3, 1) = 8; of(4, 1) = 8; of(5, 1) = 8");
         script.run(
+                "13: from the least number on: words that a collection gives back are there for the next one",
+                40,
+                "3 x spawn(); pair(1, 0, 0, 0); blob(2, 0, 16); nil(2, 0); 3 x pair(2, 1, 1, 1)",
+                "4 x pair(3, 0, 0, 0); count(1) = 0; broadcast(1, 0) = 2; count(2) = 0; of(2, 0) = 8",
+                "of(3, 0) = 16; count(1) = 8");
+        script.run(
+                "13: from the least number on: and not for the one before",
+                40,
+                "3 x spawn(); pair(1, 0, 0, 0); blob(3, 0, 16); nil(3, 0); 3 x pair(3, 1, 1, 1)",
+                "4 x pair(2, 0, 0, 0); count(1) = 0; broadcast(1, 0) = 1; count(2) = 0; of(2, 0) = 8; of(2, 2) = 0",
+                "of(3, 2) = 1; count(1) = 16");
+        script.run(
                 "13: how many got it: for none there is room",
                 40,
                 "2 x spawn(); 8 x pair(1, 0, 0, 0); of(1, 0) = 16; 4 x pair(2, 0, 0, 0); blob(2, 1, 1)",

@@ -285,8 +285,9 @@ public final class BoundariesOfTermsTest {
                 "2 x spawn(); blob(1, 0, 50); 2 x send(1, 0, 2); nil(1, 0); collect(1) = 2; count(2) = 1",
                 "receive(2, 0) = 1; nil(2, 0); collect(2) = 2; count(2) = 1; count(1) = 134; receive(2, 0) = 0",
                 "nil(2, 0); collect(2) = 2; count(2) = 0; count(1) = 184");
-        String gone = "2 x spawn(); blob(1, 0, 50); blob(1, 1, 60); send(1, 0, 2); 2 x send(1, 1, 2); 3 x receive(2, 0);"
-                + "nil(2, 0); 2 x collect(2); handles(1, 0) = 1; handles(1, 1) = 1; pair(1, 3, 2, 2); ";
+        String gone = "2 x spawn(); blob(1, 0, 50); blob(1, 1, 60); send(1, 0, 2); 2 x send(1, 1, 2);"
+                + "3 x receive(2, 0); nil(2, 0); 2 x collect(2); handles(1, 0) = 1; handles(1, 1) = 1;"
+                + "pair(1, 3, 2, 2); ";
         script.run(
                 "a blob's count: handles that have gone do not come again with other structures",
                 200,
@@ -295,8 +296,8 @@ public final class BoundariesOfTermsTest {
                 "a blob's count: handles that have gone do not go once more",
                 200,
                 gone + "pair(2, 0, 0, 0); collect(2) = 0; handles(1, 0) = 1; handles(1, 1) = 1; nil(2, 0)",
-                "collect(2) = 2; collect(2) = 0; handles(1, 0) = 1; handles(1, 1) = 1; exit(2) = 8; handles(1, 0) = 1",
-                "handles(1, 1) = 1; count(2) = 2; count(1) = 82");
+                "collect(2) = 2; collect(2) = 0; handles(1, 0) = 1; handles(1, 1) = 1; exit(2) = 8",
+                "handles(1, 0) = 1; handles(1, 1) = 1; count(2) = 2; count(1) = 82");
         script.run(
                 "when the count becomes 0 its words are free again: one blob after another",
                 200,

@@ -83,7 +83,9 @@ public final class ModelTest {
                 return call + " left " + program.state() + ", due is " + model.state();
             }
         }
-        return null;
+        String due = Contents.withCounts(model);
+        String got = Contents.withCounts(program);
+        return due.equals(got) ? null : "run " + run + " left " + got + ", due is " + due;
     }
 
     private static List<String> drawable(int run) {
