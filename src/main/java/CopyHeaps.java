@@ -73,6 +73,7 @@ public final class CopyHeaps {
     public int exit(int process) throws IndexOutOfBoundsException {
         HeapProcess ending = living(process);
         int freeBefore = pool.free;
+        // Nothing is carried, so that all handles are left behind.
         carrier.start(ending.heap, spare);
         carrier.dropHandlesLeftBehind(pool);
         pool.free += ending.capacity;

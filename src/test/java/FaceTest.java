@@ -6,14 +6,16 @@ import java.util.ArrayList;
 import java.util.Arrays;
 import java.util.List;
 
-/** The public face of the document, and rules 1 and 5 of LANGUAGE.md. */
+/** The public face of the document, and what reflection shows of rules 1, 2, 5 and 11 of LANGUAGE.md. */
 public final class FaceTest {
+    private static final int MOST_FIELDS = 20;
+
     private static final String INDEX = " IndexOutOfBoundsException";
     private static final String ARGUMENT = " IllegalArgumentException";
     private static final String STATE = " IllegalStateException";
     private static final String UNSUPPORTED = " UnsupportedOperationException";
 
-    private static final String[] FACE = {
+    static final String[] FACE = {
         "int spawn 0" + STATE,
         "int exit 1" + INDEX,
         "void nil 2" + INDEX,
@@ -79,15 +81,47 @@ public final class FaceTest {
         script.isTrue("not CopyHeaps(int)", Arrays.equals(parameters, new Class<?>[] {int.class}));
         for (Field field : CopyHeaps.class.getDeclaredFields()) {
             script.isTrue("not private: " + field.getName(), Modifier.isPrivate(field.getModifiers()));
-            script.isTrue("static and not final: " + field.getName(), isFinalIfStatic(field.getModifiers()));
         }
-        for (Method method : CopyHeaps.class.getDeclaredMethods()) {
-            boolean hidden = Modifier.isPrivate(method.getModifiers());
-            script.isTrue("private, with a public name: " + method.getName(), !hidden || !isInFace(method.getName()));
-        }
+        checkFields(script, CopyHeaps.class);
+        checkMethods(script, CopyHeaps.class);
         for (Class<?> inside : CopyHeaps.class.getDeclaredClasses()) {
-            script.isTrue("not static: " + inside.getName(), Modifier.isStatic(inside.getModifiers()));
+            checkInside(script, inside);
         }
+    }
+
+    private static void checkInside(Script script, Class<?> inside) {
+        int modifiers = inside.getModifiers();
+        boolean hidden = !Modifier.isPublic(modifiers) && !Modifier.isProtected(modifiers);
+        script.isTrue("not static: " + inside.getName(), Modifier.isStatic(modifiers));
+        script.isTrue("neither private nor package-visible: " + inside.getName(), hidden);
+        checkFields(script, inside);
+        checkMethods(script, inside);
+    }
+
+    private static void checkFields(Script script, Class<?> owner) {
+        int fields = 0;
+        for (Field field : owner.getDeclaredFields()) {
+            script.isTrue("static and not final: " + field.getName(), isFinalIfStatic(field.getModifiers()));
+            fields += Modifier.isStatic(field.getModifiers()) ? 0 : 1;
+        }
+        script.isTrue(owner.getName() + " has " + fields + " fields", fields <= MOST_FIELDS);
+    }
+
+    private static void checkMethods(Script script, Class<?> owner) {
+        for (Method method : owner.getDeclaredMethods()) {
+            boolean isPublic = Modifier.isPublic(method.getModifiers());
+            script.isTrue("with a public name: " + method, isPublic || !isInFace(method.getName()));
+            script.isTrue("not of ints: " + method, !isPublic || takesIntsAlone(method));
+        }
+    }
+
+    private static boolean takesIntsAlone(Method method) {
+        for (Class<?> type : method.getParameterTypes()) {
+            if (type != int.class) {
+                return false;
+            }
+        }
+        return true;
     }
 
     private static boolean isFinalIfStatic(int modifiers) {

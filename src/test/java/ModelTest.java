@@ -98,7 +98,7 @@ public final class ModelTest {
         return names;
     }
 
-    private static int[] draw(Random random, String name, int latest) {
+    static int[] draw(Random random, String name, int latest) {
         int p = process(random, latest);
         int r = register(random);
         int a = register(random);

@@ -23,6 +23,14 @@ public final class ProcessesTest {
                 100,
                 "count(0) = 0; count(2) = 0; count(3) = 0; count(4) = 0; of(1, 0) throws Index",
                 "kind(0, 0) throws Index");
+        Caller used = new Caller(new CopyHeaps(100));
+        used.call("spawn");
+        used.call("blob", 1, 0, 50);
+        Caller fresh = new Caller(new CopyHeaps(100));
+        script.isTrue("1: nothing of another object", fresh.state().equals("0 100 0 0 0 "));
+        fresh.call("spawn");
+        fresh.call("exit", 1);
+        script.isTrue("1: nothing in another object", used.number("handles", 1, 0) == 1);
     }
 
     private static void spawns(Script script) {

@@ -11,7 +11,7 @@ record Step(String name, int[] arguments, String due) {
     private static final Pattern TEXT =
             Pattern.compile("(?:(\\d+) x )?(\\w+)\\(([^)]*)\\)(?: = (\\S+)| throws (\\w+))?");
 
-    private static final Map<String, String> EXCEPTIONS = Map.of(
+    static final Map<String, String> EXCEPTIONS = Map.of(
             "Index", "IndexOutOfBoundsException",
             "Argument", "IllegalArgumentException",
             "State", "IllegalStateException",
